@@ -5,6 +5,7 @@ public final class OvensTest {
     public static void main(String[] args) {
         ovens();
         quickestOfStrain();
+        quickestOfGreatStrain();
         quickestOfOneRing();
         refusals();
         due.end();
@@ -80,6 +81,22 @@ public final class OvensTest {
         due.is("nor has a t", due.x.quickest(p, 0, 1), SoftGlass.NONE);
         due.is("the piece is as it was", due.x.ring(p, 0, 5), 16);
         due.is("so is its heat", due.x.ring(p, 1, 2), 555);
+    }
+
+    private static void quickestOfGreatStrain() {
+        due.fresh();
+        // strain 0 at first, and 4 more by each oven of 560 for 0 hours: 100
+        int p = due.piece(100, 10, 20, 100, 10, 20);
+        for (int k = 1; k <= 25; k++) {
+            due.is("4 more", due.x.oven(p, 560, 0), 4 * k);
+        }
+        // in an hour: 560 leaves 15 and gives 4; 540 leaves 25 and gives 3
+        due.is("19 in an hour", due.x.quickest(p, 19, 0), 1);
+        due.is("by 560", due.x.quickest(p, 19, 1), 560);
+        due.is("28 in an hour by 540, as that is the least t", due.x.quickest(p, 28, 1), 540);
+        // 480 goes no lower than 2 and gives 2; 460 no lower than 2 and gives 1; 500 no lower than 1 and gives 2
+        due.is("3 by 500, as 460 takes longer", due.x.quickest(p, 3, 1), 500);
+        due.is("2 by none", due.x.quickest(p, 2, 0), SoftGlass.NONE);
     }
 
     private static void quickestOfOneRing() {

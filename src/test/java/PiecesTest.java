@@ -187,6 +187,10 @@ public final class PiecesTest {
         due.piece(1, 1, 8);
         due.x.tenth(3, 1, 1);
         due.is("-12 by 11 is -1", due.x.ring(3, 0, 2), 8 + 1 + 36);
+        due.piece(999, 1, 0, 999, 1, 0, 999, 1, 0);
+        due.x.tenth(4, 1, 1);
+        due.is("by the iron", due.x.ring(4, 0, 2), 37);
+        due.is("0 stays 0", due.x.ring(4, 1, 2), 0);
     }
 
     private static void strain() {

@@ -159,7 +159,12 @@ public final class RecipesTest {
         due.piece(999, 9, 1500, 999, 9, 1500, 999, 9, 1500, 999, 9, 1500, 999, 9, 1500, 999, 9, 1500);
         due.recipe("j5;w9;j5");
         due.x.make(2, 2);
-        due.is("just the jack ahead of the fall: 9 less 10 is 1", due.x.ring(2, 5, 1), 1);
+        due.is("the jack ahead of the fall: 9 less 10 is 1", due.x.ring(2, 5, 1), 1);
+        due.piece(999, 30, 1500, 999, 30, 1500, 999, 30, 1500, 999, 30, 1500, 999, 30, 1500, 999, 30, 1500);
+        due.recipe("w9;j5");
+        due.x.make(3, 3);
+        due.is("fallen", due.x.ofPiece(3, 2), 1);
+        due.is("no jack behind the fall", due.x.ring(3, 5, 1), 30);
     }
 
     private static void lookingLikeMaking() {
