@@ -89,10 +89,7 @@ public final class SoftGlass {
         if (x.hasFallen()) {
             return STATE;
         }
-        // Only a recipe that is DONE stops as the piece falls: here all n tenths go by.
-        for (int k = 0; k < n; k++) {
-            x.goTenth(kind);
-        }
+        x.goTenths(kind, n);
         return x.off;
     }
 
@@ -829,6 +826,16 @@ public final class SoftGlass {
             }
         }
 
+        /** Goes n tenths, but none behind its fall: how many it went. */
+        int goTenths(int kind, int n) {
+            int took = 0;
+            while (took < n && !hasFallen()) {
+                goTenth(kind);
+                took++;
+            }
+            return took;
+        }
+
         void goTenth(int kind) {
             System.arraycopy(heat, 0, was, 0, MOST_RINGS);
             for (int k = 0; k < rings; k++) {
@@ -979,18 +986,9 @@ public final class SoftGlass {
             int took = 0;
             for (int k = 0; k < count; k++) {
                 if (k == lateItem) {
-                    took += hang(x, d);
+                    took += x.goTenths(WAIT, d);
                 }
                 took += doItem(x, k);
-            }
-            return took;
-        }
-
-        private static int hang(Piece x, int d) {
-            int took = 0;
-            while (took < d && !x.hasFallen()) {
-                x.goTenth(WAIT);
-                took++;
             }
             return took;
         }

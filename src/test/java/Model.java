@@ -459,7 +459,7 @@ public final class Model {
         if (pieces.get(p).fell()) {
             return STATE;
         }
-        for (int k = 0; k < n; k++) {
+        for (int k = 0; k < n && !pieces.get(p).fell(); k++) {
             pieces.get(p).go(kind);
         }
         return pieces.get(p).off;

@@ -126,7 +126,7 @@ public final class OvensTest {
         due.is("none of them baked it", due.x.ring(p, 0, 2), 599);
         int fell = due.piece(999, 1, 1500, 999, 1, 1500, 999, 1, 1500, 999, 1, 1500, 999, 1, 1500);
         due.x.tenth(fell, 0, 200);
-        due.is("stiff by now", due.x.ofPiece(fell, 3), 0);
+        due.is("it lies as it fell, soft", due.x.ofPiece(fell, 3) > 0 ? 1 : 0, 1);
         due.is("fallen", due.x.oven(fell, 400, 0), SoftGlass.STATE);
         due.is("quickest: fallen", due.x.quickest(fell, 99, 0), SoftGlass.STATE);
     }

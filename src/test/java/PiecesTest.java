@@ -16,6 +16,7 @@ public final class PiecesTest {
         clamps();
         strain();
         hanging();
+        stopsAtFall();
         tenthRefusals();
         due.end();
     }
@@ -239,8 +240,36 @@ public final class PiecesTest {
         due.is("fallen", due.x.tenth(1, 0, 1), 49);
         due.is("fallen at 49", due.x.ofPiece(1, 2), 1);
         due.is("OFF of what fell", due.x.ofPiece(1, 1), 49);
-        due.piece(HOT);
-        due.is("all n tenths go by", due.x.tenth(2, 0, 7), 63);
+    }
+
+    /** A piece stays as it was when it fell, however many tenths were asked for. */
+    private static void stopsAtFall() {
+        due.fresh();
+        due.piece(200, 1, 1100, 100, 1, 1500);
+        int[] offs = {9, 17, 25, 32, 39, 45};
+        for (int k = 0; k < offs.length; k++) {
+            due.is("hangs " + k, due.x.tenth(0, 0, 1), offs[k]);
+        }
+        due.is("fallen", due.x.ofPiece(0, 2), 1);
+        int[] asked = {6, 7, 10, 200};
+        for (int k = 0; k < asked.length; k++) {
+            int p = due.piece(200, 1, 1100, 100, 1, 1500);
+            due.is("tenths asked for: " + asked[k], due.x.tenth(p, 0, asked[k]), 45);
+            due.is("OFF is kept", due.x.ofPiece(p, 1), 45);
+            due.is("fallen", due.x.ofPiece(p, 2), 1);
+            due.is("heat of ring 0 as it fell", due.x.ring(p, 0, 2), due.x.ring(0, 0, 2));
+            due.is("heat of ring 1 as it fell", due.x.ring(p, 1, 2), due.x.ring(0, 1, 2));
+            due.is("strain as it fell", due.x.ofPiece(p, 4), 0);
+            due.is("no more tenths", due.x.tenth(p, 0, 1), SoftGlass.STATE);
+        }
+        int p = due.piece(200, 1, 1100, 100, 1, 1500);
+        due.is("5 tenths are no fall", due.x.tenth(p, 0, 5), 39);
+        due.is("it may be turned back", due.x.tenth(p, 1, 200), 0);
+        due.is("all 200 went by", due.x.ofPiece(p, 3), 0);
+        int q = due.piece(HOT);
+        due.is("36 off", due.x.tenth(q, 0, 4), 36);
+        due.x.tenth(q, 1, 1);
+        due.is("40, then 49", due.x.tenth(q, 0, 9), 49);
     }
 
     private static void tenthRefusals() {
