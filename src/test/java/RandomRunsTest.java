@@ -4,9 +4,10 @@ import java.util.HashMap;
 import java.util.Map;
 import java.util.Random;
 
-/** Runs of 512 calls, mostly sensible ones, on an object and on the Model: every answer must be the same. */
+/** Runs of up to 512 calls, mostly sensible ones, on an object and on the Model: every answer must be the same. */
 public final class RandomRunsTest {
-    private static final int RUNS = 400, CALLS = 512;
+    /** No step makes more calls than LONGEST_STEP: a text of 60 codes is put and read. */
+    private static final int RUNS = 400, CALLS = 512, LONGEST_STEP = 62;
     private static final int[] WILD = {Integer.MIN_VALUE, Integer.MAX_VALUE, -1, -2, 0, 1, 7, 8, 9, 60, 61, 100, 128, 1431655766};
     private static final Due due = new Due("RandomRunsTest");
     private static final Map<String, Method> real = methods(SoftGlass.class);
@@ -27,7 +28,7 @@ public final class RandomRunsTest {
             m = new Model();
             log = new StringBuilder();
             calls = 0;
-            while (calls < CALLS && !apart) {
+            while (calls <= CALLS - LONGEST_STEP && !apart) {
                 step();
             }
             if (apart) {
@@ -134,7 +135,7 @@ public final class RandomRunsTest {
     }
 
     private static void facts() {
-        int p = upTo(Math.max(0, x.many(0) - 1));
+        int p = upTo(Math.max(0, m.many(0) - 1));
         for (int what = 0; what < 6; what++) {
             both("ofPiece", p, what);
         }
@@ -157,9 +158,9 @@ public final class RandomRunsTest {
     }
 
     private static void sensible() {
-        int p = upTo(Math.max(0, x.many(0) - 1));
-        int q = upTo(Math.max(0, x.many(1) - 1));
-        int item = Math.max(0, x.item(q, -1)) == 0 ? 0 : upTo(x.item(q, -1) - 1);
+        int p = upTo(Math.max(0, m.many(0) - 1));
+        int q = upTo(Math.max(0, m.many(1) - 1));
+        int item = Math.max(0, m.item(q, -1)) == 0 ? 0 : upTo(m.item(q, -1) - 1);
         int g = 1 + upTo(998);
         int r = 1 + upTo(Math.min(g, 99) - 1);
         int h = 500 + upTo(1000);
@@ -179,7 +180,7 @@ public final class RandomRunsTest {
             case 12 -> both("nearest", p, 1 + upTo(random.nextInt(20) == 0 ? 2 : 1), -1);
             case 13 -> both("nearest", p, 2, upTo(1));
             case 14 -> both("spoils", p, q, upTo(20), upTo(1));
-            case 15 -> both("order", upTo((1 << x.many(2)) - 1), upTo(7) - 1);
+            case 15 -> both("order", upTo((1 << m.many(2)) - 1), upTo(7) - 1);
             case 16 -> both("morning", upTo(random.nextBoolean() ? 60 : 999), upTo(1));
             case 17 -> both("tell", q, item);
             case 18 -> both(random.nextBoolean() ? "call" : "item", q, item);
