@@ -273,6 +273,7 @@ public final class BitsEdgesTest {
         edge.refused("eight rings", Edge.FULL, x -> x.join(Edge.EIGHT, 100, 10, 1000, 0));
         edge.refused("eight rings, behind five tenths", Edge.FULL, x -> x.join(Edge.EIGHT, 100, 10, 1000, 5));
         edge.refused("eight rings, not held", Edge.FULL, x -> x.join(Edge.EIGHT, 100, 10, 0, 0));
+        edge.refused("eight rings and a bit", Edge.OUTSIDE, x -> x.join(Edge.EIGHT, 5, 6, 0, 0));
         edge.promise(15, due -> due.piece(Edge.rings(7, 100, 10, 1000)));
         SoftGlass x = edge.takes("seven rings", 1, y -> y.join(0, 100, 10, 1000, 0));
         edge.is("eight", x.ofPiece(0, 0), 8);

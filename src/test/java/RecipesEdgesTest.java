@@ -185,7 +185,9 @@ public final class RecipesEdgesTest {
         edge.promise(6, due -> recipes(due, 6));
         edge.refused("a seventh", Edge.FULL, y -> y.recipe(1, 1, 0, 2));
         edge.refused("a seventh that is wrong", -101, y -> y.recipe(1, 1, 0, 1));
-        edge.refused("it is no recipe", Edge.UNKNOWN, y -> y.recipe(1, 1, 0, 2) == Edge.FULL ? y.item(6, -1) : 0);
+        SoftGlass full = edge.fresh();
+        full.recipe(1, 1, 0, 2);
+        edge.is("what was refused is no recipe", full.item(6, -1), Edge.UNKNOWN);
     }
 
     private static void recipes(Due due, int n) {
